@@ -369,7 +369,7 @@ public final class RootBoxes {
             long r = a.high * b.low;
             long s = a.high * b.high;
             low = Math.floorDiv(Math.min(Math.min(p, q), Math.min(r, s)), UNIT);
-            high = upDiv(Math.max(Math.max(p, q), Math.max(r, s)), UNIT);
+            high = -Math.floorDiv(-Math.max(Math.max(p, q), Math.max(r, s)), UNIT);
         }
 
         /** Rounds each of the four by itself: rounding keeps their order, so the ends come out alike. */
@@ -884,7 +884,8 @@ public final class RootBoxes {
                 return FULL;
             }
             int box = open.widest();
-            int verdict = judged(open, box, judge);
+            judge.lookAt(open, box);
+            int verdict = judge.judge(f, g);
             boolean parted = verdict == IN_DOUBT && open.greaterWidth(box) > smallest;
             if (parted && open.isFull()) {
                 return FULL;

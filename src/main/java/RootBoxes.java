@@ -629,7 +629,10 @@ public final class RootBoxes {
             sum.become(0, 0);
             for (int i = 0; i <= DEGREE; i++) {
                 for (int j = 0; i + j <= DEGREE; j++) {
-                    sum.addTimes(grid.at(i, j), p.at(i, j));
+                    int factor = p.at(i, j);
+                    if (factor != 0) {
+                        sum.addTimes(grid.at(i, j), factor);
+                    }
                 }
             }
         }
@@ -639,7 +642,9 @@ public final class RootBoxes {
             for (int i = 0; i < DEGREE; i++) {
                 for (int j = 0; i + j < DEGREE; j++) {
                     int factor = byX ? p.at(i + 1, j) * (i + 1) : p.at(i, j + 1) * (j + 1);
-                    sum.addTimes(overBox.at(i, j), factor);
+                    if (factor != 0) {
+                        sum.addTimes(overBox.at(i, j), factor);
+                    }
                 }
             }
         }

@@ -157,6 +157,9 @@ public final class PromiseTests {
     fault("al", 0);
     fault("alls", 0);
     fault("allall", 0);
+    fault("allz", 0);
+    fault("alla", 0);
+    fault("f 1 0 00009", 6);
     fault("h 1 0 0", 0);
     fault("1", 0);
     fault("-", 0);
@@ -787,6 +790,14 @@ public final class PromiseTests {
     }
     due("solved(0, 2)", y.solved(0, 2), -32);
     due("solved(1, 2)", y.solved(1, 2), 32);
+    // the root at 0 is found before the one at -2
+    RootBoxes z = told("f -1 2 0;f -2 1 0;g 1 0 1;box -131 104 -7 9");
+    while (z.count(1) == 0 && z.step() >= 0) due("entries", z.count(3) < 12 ? 1 : 0, 1);
+    due("solved(0, 0)", z.solved(0, 0), 0);
+    stepAll(z);
+    due("count(1)", z.count(1), 2);
+    due("solved(0, 0)", z.solved(0, 0), -128);
+    due("solved(1, 0)", z.solved(1, 0), 0);
   }
 
   private static void doubtful() {
@@ -949,6 +960,17 @@ public final class PromiseTests {
     due("term(0, 0, 0)", x.term(0, 0, 0), 1);
     due("back(2)", x.back(2), OUTSIDE);
     due("count(3)", x.count(3), 1);
+    RootBoxes z = told("box 0 7 0 1");
+    due("steps(20)", z.steps(20), 3);
+    due("keep(0)", z.keep(0), 3);
+    z.put(0, 0, 0, 1);
+    z.begin(0, 9, 0, 9);
+    due("step()", z.step(), 0);
+    due("back(0)", z.back(0), 3);
+    due("count(2)", z.count(2), 2);
+    dueBox("doubtful 0", what -> z.doubtful(0, what), 3, 7, 0, 1);
+    due("entry(0, 4)", z.entry(0, 4), 5);
+    due("count(9)", z.count(9), 3);
     RootBoxes y = new RootBoxes();
     due("keep(1) of a new one", y.keep(1), 0);
     y.put(0, 0, 0, 3);

@@ -313,6 +313,9 @@ public final class BoxSentences {
     dueFence("f 1 2 0;g -1 0 1", new int[] {10, 20, 0, 0}, 2, 11, 0, 0);
     // from -15: -12.8 .. -4.8
     dueFence("f 1 2 0;g 1 0 1", new int[] {-20, -10, 0, 0}, -11, -2, 0, 0);
+    // -61 .. -60 by 20 .. 40: -195.2 .. -96
+    dueFence("f 1 2 0;f -1 0 0;g 1 0 1", new int[] {10, 20, 0, 0}, 111, 211, 0, 0);
+    dueFence("f -1 2 0;f 1 0 0;g 1 0 1", new int[] {10, 20, 0, 0}, 111, 211, 0, 0);
     // -4 .. 1 by 6 .. 18: both ends by 6
     dueFence("f 4 3 0;f -1 2 0;g 1 0 1", new int[] {15, 15, 0, 0}, 4, 58, 0, 0);
     dueFence("f 4 3 0;f -1 2 0;g -1 0 1", new int[] {15, 15, 0, 0}, 4, 58, 0, 0);
@@ -395,7 +398,7 @@ public final class BoxSentences {
   private static void hold() {
     Talk x = Talk.told("f 1 1 0;g 1 0 1").due(9, "hold", -5, 4, 6, 7);
     x.due(-5, "value", 0, 0).due(4, "value", 0, 1).due(6, "value", 1, 0).due(7, "value", 1, 1);
-    x.due(1, "hold", 1, 2, 3, 3).due(1, "value", 0, 0).due(2, "value", 0, 1).due(3, "value", 1, 0).due(3, "value", 1, 1);
+    x.due(6, "hold", 1, 2, 3, 9).due(1, "hold", 1, 2, 3, 3).due(1, "value", 0, 0).due(2, "value", 0, 1).due(3, "value", 1, 0).due(3, "value", 1, 1);
     x.due(0, "count", 0).due(0, "count", 3);
   }
 
@@ -497,7 +500,8 @@ public final class BoxSentences {
     // f 225/64 at 15 alone, though over the box it is 1 .. 7; D is of the box
     Talk.told("f 1 2 0;g 1 0 1").then("hold", 10, 20, 0, 0).due(1, "value", 0, 0).due(7, "value", 0, 1).due(20, "fence", 4).due(40, "fence", 5)
         .due(2, "fence", 0).due(11, "fence", 1);
-    // the middle of y is of y
+    Talk.told("f 1 1 0;g 1 0 2").then("hold", 0, 0, 10, 20).due(2, "fence", 2).due(11, "fence", 3);
+    // each has its own middle
     Talk.told("f 1 1 0;f 1 0 1;g 1 0 1").then("hold", -100, 100, 20, 40).dueBox("fence", 0, 0, 0, 0);
     Talk.told("f 1 1 0;f -1 0 0;g 1 0 1;g -2 0 0").then("hold", -300, 500, -10, 10).dueBox("fence", 64, 64, 128, 128);
   }
@@ -545,6 +549,8 @@ public final class BoxSentences {
 
   private static void fence() {
     Talk x = Talk.told(FULL_SYSTEM).then("hold", 64, 96, 96, 160).dueBox("fence", 65, 83, 46, 106).due(800, "fence", 4).due(1952, "fence", 5);
+    // D also where there is none
+    Talk.told("f 1 2 0;g 1 0 1").then("hold", -3, 9, 0, 1).due(NONE, "fence", 0).due(-6, "fence", 4).due(18, "fence", 5);
     // of the polynomials as they are now
     x.then("put", 1, 1, 0, 0).due(672, "fence", 4).due(1760, "fence", 5);
     // it need not lie in the box

@@ -260,8 +260,8 @@ public final class RefusalSentences {
     z.then("back", 1).due(4, "term", 0, 0, 0);
     // keep changes nothing of what is, nor do later calls change what is kept
     Talk w = Talk.busy().then("keep", 0).due(8, "count", 3).due(3, "count", 0).due(1, "count", 11).due(7, "count", 12);
-    w.then("put", 0, 2, 0, 9).then("least", 9).due(3, "steps", 3).then("begin", 0, 1, 0, 1).then("step").due(8, "back", 0).due(1, "term", 0, 2, 0);
-    w.due(7, "count", 12).dueBox("entry", 7, 128, 192, 0, 64).dueBox("first", 128, 192, 64, 128).due(1, "count", 1).due(1, "count", 2);
+    w.then("put", 0, 2, 0, 9).then("least", 9).due(3, "steps", 3).then("put", 0, 0, 0, 9).then("begin", 0, 1, 0, 1).due(0, "step");
+    w.due(8, "back", 0).due(1, "term", 0, 2, 0).due(0, "term", 0, 0, 0).due(5, "entry", 0, 4).due(1, "count", 4).due(6, "count", 9).due(7, "count", 12).dueBox("entry", 7, 128, 192, 0, 64).dueBox("first", 128, 192, 64, 128).due(1, "count", 1).due(1, "count", 2);
     // a shorter one for a longer one
     Talk v = Talk.busy().then("keep", 1).then("begin", 0, 9, 0, 9).due(0, "keep", 1).then("step").due(0, "back", 1).due(1, "count", 0).due(0, "count", 1).due(0, "count", 2);
     v.dueBox("first", 0, 9, 0, 9).due(UNKNOWN, "entry", 0, 0);

@@ -92,12 +92,18 @@ public final class BoxSentences {
     new Talk().due(0, "count", 10).due(0, "count", 0).due(NOT, "back", 0).due(NOT, "verdict").due(4, "least", 4);
   }
 
+  /** Looked up in the class: written by their names they would be folded into the test. */
   private static void constants() {
-    Sentences.must("NONE", RootBoxes.NONE == -1000000001);
-    Sentences.must("UNKNOWN", RootBoxes.UNKNOWN == -1000000002);
-    Sentences.must("OUTSIDE", RootBoxes.OUTSIDE == -1000000003);
-    Sentences.must("NOT", RootBoxes.NOT == -1000000004);
-    Sentences.must("FULL", RootBoxes.FULL == -1000000005);
+    String[] names = {"NONE", "UNKNOWN", "OUTSIDE", "NOT", "FULL"};
+    for (int k = 0; k < names.length; k++) {
+      int got = 0;
+      try {
+        got = RootBoxes.class.getField(names[k]).getInt(null);
+      } catch (ReflectiveOperationException e) {
+        Sentences.wrong(names[k] + ": " + e);
+      }
+      Sentences.must(names[k] + " is " + got, got == -1000000001 - k);
+    }
   }
 
   private static void noneAtFirst() {

@@ -57,6 +57,7 @@ public final class BoxSentences {
     Sentences.sentence("by y likewise with j and POWER j less 1", BoxSentences::slopeByY);
     Sentences.sentence("Its SLOPE by x (by 0), y (1): LOW (what 0), HIGH (1). UNKNOWN; OUTSIDE; NOT: none is HELD.", BoxSentences::slope);
     Sentences.sentence("f, g: VALUES of POLYNOMIALS 0, 1 over the BOX that is the MIDDLES alone", BoxSentences::atTheMiddles);
+    Sentences.sentence("fx, fy, gx, gy: their SLOPES over the BOX", BoxSentences::slopesOverTheBox);
     Sentences.sentence("D: PRODUCT of fx and gy LESS PRODUCT of fy and gx.", BoxSentences::steepness);
     Sentences.sentence("If 0 is in D there is none.", BoxSentences::noFence);
     Sentences.sentence("Its SPAN of x: MIDDLE of x LESS QUOTIENT by D of (PRODUCT of gy and f LESS PRODUCT of fy and g)", BoxSentences::fenceOfX);
@@ -510,6 +511,17 @@ public final class BoxSentences {
     // each has its own middle
     Talk.told("f 1 1 0;f 1 0 1;g 1 0 1").then("hold", -100, 100, 20, 40).dueBox("fence", 0, 0, 0, 0);
     Talk.told("f 1 1 0;f -1 0 0;g 1 0 1;g -2 0 0").then("hold", -300, 500, -10, 10).dueBox("fence", 64, 64, 128, 128);
+  }
+
+  private static void slopesOverTheBox() {
+    // each of the four by itself is 20 .. 40, where it would be 30 at the middles; the others are 64 or 0
+    int[] box = {10, 20, 10, 20};
+    Talk.told("f 1 2 0;g 1 0 1").then("hold", box).due(20, "fence", 4).due(40, "fence", 5);
+    Talk.told("f 1 1 0;g 1 0 2").then("hold", box).due(20, "fence", 4).due(40, "fence", 5);
+    Talk.told("f 1 0 2;g 1 1 0").then("hold", box).due(-40, "fence", 4).due(-20, "fence", 5);
+    Talk.told("f 1 0 1;g 1 2 0").then("hold", box).due(-40, "fence", 4).due(-20, "fence", 5);
+    // 0 is in D by a border alone, though not at the middles
+    Talk.told("f 1 2 0;g 1 0 1").then("hold", 0, 100, 0, 100).due(NONE, "fence", 0).due(0, "fence", 4).due(200, "fence", 5);
   }
 
   private static void steepness() {

@@ -10,6 +10,9 @@ public final class RefusalSentences {
   public static void main(String[] args) {
     Sentences.sentence("UNKNOWN -1000000002 (no such POLYNOMIAL, BOX, ENTRY)", RefusalSentences::unknown);
     Sentences.sentence("OUTSIDE -1000000003 (another number is not as told; a PLACE, too)", RefusalSentences::outside);
+    Sentences.sentence("NOT -1000000004 (not now: as told)", RefusalSentences::not);
+    Sentences.sentence("FULL -1000000005", RefusalSentences::full);
+    Sentences.sentence("NONE is -1000000001.", RefusalSentences::none);
     Sentences.sentence("the first of these that fits", RefusalSentences::firstThatFits);
     Sentences.sentence("Refused, and nothing changes", RefusalSentences::nothingChanges);
     Sentences.sentence("POLYNOMIALS, LEAST, THE SEARCH are kept (k 0, 1): how many ENTRIES. OUTSIDE.", RefusalSentences::keep);
@@ -44,6 +47,38 @@ public final class RefusalSentences {
     x.due(OUTSIDE, "fence", -1).due(OUTSIDE, "begin", 0, 1, -513, 1).due(OUTSIDE, "least", 0).due(OUTSIDE, "steps", 0).due(OUTSIDE, "first", -1);
     x.due(OUTSIDE, "solved", 0, -1).due(OUTSIDE, "doubtful", 0, -1).due(OUTSIDE, "entry", 0, -1).due(OUTSIDE, "find", 0, -513).due(OUTSIDE, "keep", -1);
     x.due(OUTSIDE, "back", -1).due(OUTSIDE, "count", -1);
+  }
+
+  /** Each that answers NOT does not any more as soon as it can be done. */
+  private static void not() {
+    Talk x = new Talk().due(NOT, "tell").due(NOT, "value", 0, 0).due(NOT, "slope", 1, 1, 1).due(NOT, "fence", 0).due(NOT, "fence", 5).due(NOT, "verdict");
+    x.due(NOT, "step").due(NOT, "first", 0).due(NOT, "first", 3).due(NOT, "back", 0).due(NOT, "back", 1);
+    x.say("all").due(1, "tell").then("hold", 0, 0, 0, 0).due(0, "value", 0, 0).due(0, "slope", 1, 1, 1).due(NONE, "fence", 0).due(0, "fence", 5).due(5, "verdict");
+    x.then("begin", 0, 1, 2, 3).due(0, "first", 0).due(3, "first", 3).due(5, "step").due(NOT, "step").due(NOT, "first", 0);
+    x.due(1, "keep", 0).due(1, "back", 0).due(NOT, "back", 1).due(1, "keep", 1).due(1, "back", 1).due(NOT, "tell");
+    // a box that is open is not held, one that is held is not open
+    new Talk().then("begin", 0, 1, 0, 1).due(NOT, "verdict").due(NOT, "value", 0, 0);
+    new Talk().then("hold", 0, 1, 0, 1).due(NOT, "step").due(NOT, "first", 0).due(0, "steps", 1);
+    // steps are none then: that is no refusal
+    new Talk().due(0, "steps", 1).due(0, "steps", 20).due(NONE, "broken").due(0, "find", 0, 0);
+  }
+
+  private static void full() {
+    new Talk().say("z".repeat(199)).due(200, "write", 'z').due(FULL, "write", 'z').due(200, "erase").due(1, "write", 'z');
+    Talk x = new Talk();
+    openFull(x);
+    x.due(64, "count", 0).due(63, "count", 3).due(FULL, "step").then("put", 0, 0, 0, 1).due(0, "step").due(63, "count", 0);
+    Talk y = new Talk();
+    entriesFull(y);
+    y.due(FULL, "step").due(FULL, "step").then("begin", 0, 1, 0, 1).due(5, "step");
+  }
+
+  private static void none() {
+    new Talk().say("all").due(NONE, "fault").due(NONE, "fault").due(3, "erase").due(0, "fault");
+    Talk x = new Talk().then("hold", 0, 1, 0, 1);
+    for (int what = 0; what < 4; what++) x.due(NONE, "fence", what);
+    x.due(0, "fence", 4).due(0, "fence", 5).due(NONE, "broken").then("begin", 0, 1, 0, 1).due(5, "step").due(NONE, "broken");
+    x.then("put", 0, 0, 0, 1).due(0, "broken");
   }
 
   /** 200 entries and nothing open: 63 are parted, one made smaller, 62 go, 36 are parted, 38 go. */
@@ -267,6 +302,52 @@ public final class RefusalSentences {
     v.dueBox("first", 0, 9, 0, 9).due(UNKNOWN, "entry", 0, 0);
   }
 
+  /** 23 entries: by 15 there are 16 open ones, 64 wide and high, of which 3 are solved, then 5 doubtful; 8 stay open. */
+  private static Talk longSearch(Talk x, int low) {
+    x.say("all").then("tell").then("begin", low, low + 256, low, low + 256).due(15, "steps", 15).then("put", 0, 1, 0, 2).then("put", 1, 0, 1, 2);
+    for (int k = 0; k < 3; k++) {
+      x.then("put", 0, 0, 0, -(x.ask("first", 0) + 32) / 32).then("put", 1, 0, 0, -(x.ask("first", 2) + 32) / 32).due(3, "step");
+    }
+    return x.say("f 0 1 0;f 0 0 0;g 0 0 1;g 0 0 0;least 64").then("tell").due(5, "steps", 5).due(8, "count", 0);
+  }
+
+  /** Every box of it, also where another search has stood in the meantime. */
+  private static void dueLike(Talk once, Talk x) {
+    for (int what = 0; what < 15; what++) x.due(once.ask("count", what), "count", what);
+    for (int k = 0; k < 23; k++) for (int what = 0; what < 5; what++) x.due(once.ask("entry", k, what), "entry", k, what);
+    for (int k = 0; k < 3; k++) for (int what = 0; what < 4; what++) x.due(once.ask("solved", k, what), "solved", k, what);
+    x.due(8, "steps", 20);
+    once.due(8, "steps", 20);
+    for (int k = 0; k < 13; k++) for (int what = 0; what < 4; what++) x.due(once.ask("doubtful", k, what), "doubtful", k, what);
+  }
+
+  private static void keptWhole() {
+    int[] lows = {0, -256};
+    for (int k = 0; k < 2; k++) {
+      Talk x = longSearch(longSearch(new Talk(), lows[0]).due(23, "keep", 0), lows[1]).due(23, "keep", 1);
+      otherSearch(x).due(23, "back", k);
+      dueLike(longSearch(new Talk(), lows[k]), x);
+    }
+    // what it is, by itself
+    Talk y = otherSearch(longSearch(new Talk(), 0).due(23, "keep", 1)).due(23, "back", 1);
+    y.dueBox("entry", 0, 0, 256, 0, 256).dueBox("entry", 22, 64, 128, 192, 256).dueBox("solved", 2, 32, 32, 160, 160).dueBox("doubtful", 4, 64, 128, 192, 256);
+    y.dueBox("first", 128, 192, 0, 64).due(8 * 64, "count", 14).due(8, "steps", 20).dueBox("doubtful", 12, 192, 256, 192, 256);
+    // all 200 of them: the last 17 were parted
+    Talk z = new Talk();
+    entriesFull(z);
+    int[] last = {z.ask("entry", 199, 0), z.ask("entry", 199, 1), z.ask("entry", 199, 2), z.ask("entry", 199, 3)};
+    otherSearch(z.due(200, "keep", 0)).due(0, "entry", 199, 4).due(200, "back", 0).due(5, "entry", 199, 4).due(5, "entry", 183, 4).due(0, "entry", 182, 4);
+    z.dueBox("entry", 199, last[0], last[1], last[2], last[3]);
+  }
+
+  /** 200 entries, elsewhere: 5 up to entry 10, 0 up to 21, and 0 at last. */
+  private static Talk otherSearch(Talk x) {
+    x.say("all").then("tell").then("begin", -512, -1, -512, -1).due(11, "steps", 11).then("put", 0, 0, 0, 1).due(11, "steps", 11).then("put", 0, 0, 0, 0);
+    for (int k = 0; k < 3; k++) x.then("steps", 20);
+    x.then("put", 0, 0, 0, 1).then("steps", 20).then("steps", 20).then("put", 0, 0, 0, 0).then("steps", 20).then("steps", 20).then("put", 0, 0, 0, 1);
+    return x.then("steps", 20).then("steps", 20).then("steps", 20).due(200, "count", 3);
+  }
+
   private static void back() {
     Talk x = Talk.busy().due(4, "back", 0).due(1, "count", 0).due(1, "count", 1).due(0, "count", 2).due(4, "count", 3).due(4, "count", 12);
     x.due(2, "count", 10).due(2, "count", 11).due(1, "term", 0, 1, 0).due(-1, "term", 1, 0, 0).due(0, "term", 0, 2, 0).dueBox("first", 128, 256, 0, 128);
@@ -277,6 +358,7 @@ public final class RefusalSentences {
     new Talk().then("keep", 0).then("hold", 1, 2, 3, 4).then("back", 0).due(5, "verdict");
     new Talk().then("hold", 1, 2, 3, 4).then("keep", 0).say("all").due(1, "tell").then("back", 0).due(NOT, "verdict");
     new Talk().say("abc").then("keep", 0).due(3, "erase").then("back", 0).due(0, "count", 13);
+    keptWhole();
     // it can be gone back to again, and goes on as it did
     Talk z = Talk.busy().due(8, "back", 1).due(0, "step").due(9, "count", 3).due(8, "back", 1).due(8, "count", 3).due(0, "step").due(4, "back", 0).due(8, "back", 1);
     z.due(8, "keep", 0).due(8, "back", 0).due(7, "count", 12);

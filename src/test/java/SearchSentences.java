@@ -19,6 +19,7 @@ public final class SearchSentences {
   private static void bounds() {
     Sentences.sentence("THE SEARCH has BOXES that are OPEN (64 at most)", SearchSentences::open64);
     Sentences.sentence("ENTRIES (200 at most), each a BOX and the VERDICT that it got", SearchSentences::entries200);
+    Sentences.sentence("SOLVED, DOUBTFUL, and a PROOF", SearchSentences::moreThan64);
     Sentences.sentence("none of all at first", SearchSentences::noneAtFirst);
     Sentences.sentence("LEAST (1 .. 64; 4 at first)", SearchSentences::leastBounds);
   }
@@ -107,6 +108,38 @@ public final class SearchSentences {
     y.due(4, "entry", 0, 4).due(0, "entry", 1, 4).dueBox("entry", 0, 0, 64, 0, 200).dueBox("entry", 1, 64, 64, 64, 64);
   }
 
+  /** Of 64 open ones, 8 by 8, 40 are settled; by 24 steps those of the next column are parted in four; then the wider 16 go first. */
+  private static void moreThan64() {
+    Talk x = with64Open(-256, 256).then("least", 64).due(20, "steps", 20).due(20, "steps", 20).due(40, "count", 2).then("least", 1);
+    x.due(20, "steps", 20).due(4, "steps", 4).due(48, "count", 0).then("least", 64).due(20, "steps", 20).due(20, "steps", 20).due(8, "steps", 20);
+    x.due(88, "count", 2).due(0, "count", 0).due(175, "count", 3).due(UNKNOWN, "doubtful", 88, 0);
+    x.dueBox("doubtful", 0, -256, -192, -256, -192).dueBox("doubtful", 39, 0, 64, 192, 256).dueBox("doubtful", 40, 128, 192, -256, -192);
+    x.dueBox("doubtful", 55, 192, 256, 192, 256).dueBox("doubtful", 56, 64, 96, -256, -224).dueBox("doubtful", 87, 96, 128, 224, 256);
+    x.due(175, "keep", 0).say("all").due(1, "tell").due(175, "back", 0).due(88, "count", 2).dueBox("doubtful", 87, 96, 128, 224, 256);
+    Talk y = with64Open(-512, 512);
+    solveFirst(y, 40);
+    y.say("f 0 1 0;f 0 0 0;g 0 0 1;g 0 0 0").due(4, "tell").due(20, "steps", 20).due(4, "steps", 4).due(48, "count", 0);
+    solveFirst(y, 40);
+    y.due(80, "count", 1).due(167, "count", 3).due(8, "count", 0).due(UNKNOWN, "solved", 80, 0);
+    y.dueBox("solved", 0, -480, -480, -480, -480).dueBox("solved", 39, 32, 32, 416, 416).dueBox("solved", 40, 160, 160, -480, -480);
+    y.dueBox("solved", 55, 160, 160, 480, 480).dueBox("solved", 63, 224, 224, -32, -32).dueBox("solved", 64, 288, 288, -480, -480);
+    y.dueBox("solved", 79, 416, 416, 416, 416);
+  }
+
+  /** A root 32 above both LOWS, which is within the box: it is 64 wide and high, or more. */
+  private static void solveFirst(Talk x, int times) {
+    int oldX = HIGHEST, oldY = HIGHEST;
+    x.then("put", 0, 1, 0, 2).then("put", 1, 0, 1, 2);
+    for (int k = 0; k < times; k++) {
+      int lowX = x.ask("first", 0), lowY = x.ask("first", 2);
+      if (lowX != oldX) x.then("put", 0, 0, 0, -(lowX + 32) / 32);
+      if (lowY != oldY) x.then("put", 1, 0, 0, -(lowY + 32) / 32);
+      x.due(3, "step");
+      oldX = lowX;
+      oldY = lowY;
+    }
+  }
+
   private static void noneAtFirst() {
     Talk x = new Talk();
     for (int what = 0; what < 10; what++) x.due(0, "count", what);
@@ -144,6 +177,9 @@ public final class SearchSentences {
 
   private static void leastLowOfY() {
     new Talk().then("begin", 0, 1, -8, 8).due(5, "step").dueBox("first", 0, 1, -8, 0).due(5, "step").dueBox("first", 0, 1, 0, 8);
+    // before HIGH of x: the upper half, wider by 1, is made smaller to 7 .. 8, -3 .. 2
+    Talk x = Talk.told("box 7 11 -9 2").due(5, "step").say("f -1 1 0;f -4 0 1;g 1 1 1;g 4 2 0;g -3 2 1").due(5, "tell").due(4, "step");
+    x.due(2, "count", 0).due(5, "count", 14).dueBox("first", 7, 11, -9, -4).then("put", 0, 0, 0, 20).due(0, "step").dueBox("first", 7, 8, -3, 2);
   }
 
   private static void leastHighOfX() {
@@ -151,12 +187,20 @@ public final class SearchSentences {
     Talk x = Talk.told("box -103 -83 15 25").due(5, "step").say("f -7 1 3;g -7 0 1;g -5 1 1;g 1 0 0").due(4, "tell");
     x.due(4, "step").dueBox("first", -93, -93, 15, 25).due(2, "count", 0).due(10, "count", 14).then("put", 0, 0, 0, 20).due(0, "step");
     x.dueBox("entry", 2, -93, -93, 15, 25).dueBox("first", -93, -83, 15, 25);
+    // before HIGH of y: the other half, wider by 1, was made smaller to y 15 .. 19
+    Talk y = Talk.told("box -103 -82 15 25").due(5, "step").say("f 5 0 3;g 7 0 0;g 3 0 1;g -4 2 0").due(4, "tell").due(4, "step");
+    y.say("f 0 0 3;f -7 1 3;g 1 0 0;g -7 0 1;g 0 2 0;g -5 1 1").due(6, "tell").due(4, "step").due(2, "count", 0).dueBox("first", -93, -93, 15, 25);
+    y.then("put", 0, 0, 0, 20).due(0, "step").dueBox("first", -93, -83, 15, 19);
   }
 
   private static void leastHighOfY() {
     Talk x = Talk.told("box 15 25 -103 -83").due(5, "step").say("f -7 3 1;g -7 1 0;g -5 1 1;g 1 0 0").due(4, "tell");
     x.due(4, "step").dueBox("first", 15, 25, -93, -93).due(2, "count", 0).due(20, "count", 14).then("put", 0, 0, 0, 20).due(0, "step");
     x.dueBox("entry", 2, 15, 25, -93, -93).dueBox("first", 15, 25, -93, -83);
+    // where y is above x, too
+    Talk y = Talk.told("box -131 -122 209 227").due(5, "step").say("f -4 3 0;f -2 2 1;g 1 1 1;g -1 3 0").due(4, "tell");
+    y.due(4, "step").due(2, "count", 0).dueBox("first", -131, -122, 218, 218).then("put", 0, 0, 0, 20).due(0, "step");
+    y.dueBox("first", -131, -122, 218, 227);
   }
 
   /** The wider half, at x or y 127 and above, goes first: its root at 192 is solved before that at 64. */
@@ -168,6 +212,55 @@ public final class SearchSentences {
     Talk y = new Talk().then("begin", 0, 255, 0, 255).due(5, "step").say("f 1 1 0;f -1 0 0;g 1 0 1;g -3 0 0").due(4, "tell").due(3, "step");
     y.then("put", 0, 0, 0, -3).then("put", 1, 0, 0, -1).due(3, "step").due(2, "count", 1);
     y.dueBox("solved", 0, 64, 64, 192, 192).dueBox("solved", 1, 192, 192, 64, 64);
+    dueEachBelow(true);
+    dueOneBetween(true);
+    dueEachAbove(true);
+  }
+
+  /** A search along x, or along y: the other is -1 .. 1, and its root 0. */
+  private static Talk along(boolean x, int low, int high) {
+    return x ? new Talk().then("begin", low, high, -1, 1) : new Talk().then("begin", -1, 1, low, high);
+  }
+
+  /** What is first has a root at k times 64 by c then. */
+  private static void solveAt(Talk t, boolean x, int c, int k) {
+    t.then("put", 0, x ? 1 : 0, x ? 0 : 1, c).then("put", 0, 0, 0, -k).then("put", 1, x ? 0 : 1, x ? 1 : 0, 1).due(3, "step");
+    t.then("put", 0, x ? 1 : 0, x ? 0 : 1, 0).then("put", 0, 0, 0, 0).then("put", 1, x ? 0 : 1, x ? 1 : 0, 0);
+  }
+
+  private static void dueSolvedAt(Talk t, boolean x, int... roots) {
+    t.due(roots.length, "count", 1);
+    for (int k = 0; k < roots.length; k++) {
+      t.dueBox("solved", k, x ? roots[k] : 0, x ? roots[k] : 0, x ? 0 : roots[k], x ? 0 : roots[k]);
+    }
+  }
+
+  /** The upper of two halves is the wider by 1 and goes first, so each that is solved lies below all others. */
+  private static void dueEachBelow(boolean x) {
+    Talk t = along(x, -300, 211).due(5, "step");
+    solveAt(t, x, 1, 0);
+    solveAt(t.due(5, "step"), x, 1, -1);
+    solveAt(t.due(5, "step"), x, 1, -3);
+    dueSolvedAt(t, x, -192, -64, 0);
+    solveAt(t.due(5, "step"), x, 1, -4);
+    solveAt(t.due(5, "step"), x, 4, -17);
+    dueSolvedAt(t, x, -272, -256, -192, -64, 0);
+  }
+
+  private static void dueOneBetween(boolean x) {
+    Talk t = along(x, -300, 211).due(5, "step");
+    solveAt(t, x, 1, 0);
+    solveAt(t.due(5, "step").due(5, "step"), x, 1, -4);
+    solveAt(t, x, 1, -2);
+    dueSolvedAt(t, x, -256, -128, 0);
+    solveAt(t, x, 1, -1);
+    dueSolvedAt(t, x, -256, -128, -64, 0);
+  }
+
+  private static void dueEachAbove(boolean x) {
+    Talk t = along(x, -256, 256).due(3, "steps", 3);
+    for (int k = -3; k <= 3; k += 2) solveAt(t, x, 1, k);
+    dueSolvedAt(t, x, -192, -64, 64, 192);
   }
 
   /** LOWS of both that are alike cannot be: each lies within its own box, and boxes have borders alone in common. */
@@ -175,6 +268,9 @@ public final class SearchSentences {
     Talk x = new Talk().then("begin", 0, 100, 0, 255).due(5, "step").say("f 1 1 0;f -1 0 0;g 1 0 1;g -3 0 0").due(4, "tell");
     x.due(3, "step").dueBox("solved", 0, 64, 64, 192, 192).then("put", 1, 0, 0, -1).due(3, "step").due(2, "count", 1);
     x.dueBox("solved", 0, 64, 64, 64, 64).dueBox("solved", 1, 64, 64, 192, 192);
+    dueEachBelow(false);
+    dueOneBetween(false);
+    dueEachAbove(false);
   }
 
   private static void asTheyCame() {

@@ -22,7 +22,7 @@ public final class Mutants {
   private static final Path TESTS = Path.of("src", "test", "java");
   private static final Path PROGRAM = Path.of("src", "main", "java", "RootBoxes.java");
   private static final Path TABLE = Path.of("src", "test", "mutants", "mutants.txt");
-  private static final List<String> GROUPS = List.of("TextSentences", "BoxSentences", "SearchSentences", "RefusalSentences");
+  private static final List<String> GROUPS = List.of("WhatItIsSentences", "TextSentences", "BoxSentences", "SearchSentences", "RefusalSentences");
   private static final int MOST_SECONDS = 60;
 
   private record Mutant(String words, String stands, String instead) { }
